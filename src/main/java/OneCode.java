@@ -83,7 +83,7 @@ public final class OneCode {
             return FULL;
         }
         for (int i = n - 1; i >= 0; i--) {
-            tape[tapeLength] = bytes >>> (8 * i) & 255;
+            tape[tapeLength] = (bytes >>> (8 * i)) & 255;
             tapeLength++;
         }
         return tapeLength;
@@ -1766,13 +1766,20 @@ public final class OneCode {
             tops[0] = rules.top(LINES, sort);
             int spread = 1;
             for (int slot = 0; slot < SLOTS; slot++) {
-                int choices = ways[slot];
-                if (choices > 0) {
-                    // From behind, so that no TOP is written over that is still to be spread.
-                    for (int i = spread * choices - 1; i >= 0; i--) {
-                        tops[i] = withWay(tops[i / choices], slot, i % choices, sort);
-                    }
-                    spread *= choices;
+                if (ways[slot] > 0) {
+                    spreadOver(slot, spread, sort);
+                    spread *= ways[slot];
+                }
+            }
+        }
+
+        private void spreadOver(int slot, int spread, int sort) {
+            int choices = ways[slot];
+            // From behind, so that no TOP is written over that is still to be spread.
+            for (int i = spread - 1; i >= 0; i--) {
+                int ahead = tops[i];
+                for (int number = choices - 1; number >= 0; number--) {
+                    tops[i * choices + number] = withWay(ahead, slot, number, sort);
                 }
             }
         }
