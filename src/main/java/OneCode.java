@@ -1659,8 +1659,11 @@ public final class OneCode {
         private final Text[] texts = new Text[SLOTS * MOST_WAYS];
         private final int[] ranks = new int[SLOTS * MOST_WAYS];
         private final int[] ways = new int[SLOTS];
-        private final int[] customEnds = new int[CUSTOMS];
         private final int[] customPeople = new int[CUSTOMS];
+        // The ENDS of the customs that have people and no CLASH or GAP, for the SORT asked last.
+        private final int[] customEnds = new int[CUSTOMS];
+        private final int[] endPeople = new int[CUSTOMS];
+        private int ends;
         // By the PLACE of a WRITING: SLOT 0's WAY counts most in it, so that of several
         // WRITINGS the one that the document wants is the one of the least PLACE.
         private final int[] tops = new int[MOST_WRITINGS];
@@ -1711,14 +1714,8 @@ public final class OneCode {
             prepare(now);
             int sum = 0;
             for (int sort = 0; sort < SORTS; sort++) {
-                int top = rules.top(LINES, sort);
-                for (int slot = 0; slot < SLOTS; slot++) {
-                    if (ways[slot] > 0) {
-                        top = withWay(top, slot, digitOf(writing, slot), sort);
-                    }
-                }
                 askCustoms(sort);
-                sum += peopleWith(endOf(top));
+                sum += peopleWith(endOf(topOfWriting(writing, sort)));
             }
             return sum;
         }
@@ -1732,9 +1729,9 @@ public final class OneCode {
             Arrays.fill(kept, 0);
             for (int sort = 0; sort < SORTS; sort++) {
                 askCustoms(sort);
-                spreadTops(sort);
-                for (int place = 0; place < writings; place++) {
-                    kept[place] += peopleWith(endOf(tops[place]));
+                if (ends > 0) {
+                    spreadTops(sort);
+                    keepBy(writings);
                 }
             }
             int best = 0;
@@ -1761,32 +1758,57 @@ public final class OneCode {
             return writing;
         }
 
+        private int topOfWriting(int writing, int sort) {
+            int top = rules.top(LINES, sort);
+            for (int slot = 0; slot < SLOTS; slot++) {
+                if (ways[slot] > 0) {
+                    int i = slot * MOST_WAYS + digitOf(writing, slot);
+                    top = texts[i].addTo(top, ranks[i], sort);
+                }
+            }
+            return top;
+        }
+
+        private void keepBy(int writings) {
+            for (int place = 0; place < writings; place++) {
+                kept[place] += peopleWith(endOf(tops[place]));
+            }
+        }
+
         /** Sets the TOPS of all WRITINGS for a SORT, each SLOT spreading those of the SLOTS ahead. */
         private void spreadTops(int sort) {
             tops[0] = rules.top(LINES, sort);
             int spread = 1;
             for (int slot = 0; slot < SLOTS; slot++) {
                 if (ways[slot] > 0) {
-                    spreadOver(slot, spread, sort);
+                    spreadOver(slot, spread, waysFitting(slot, sort));
                     spread *= ways[slot];
                 }
             }
         }
 
-        private void spreadOver(int slot, int spread, int sort) {
+        private void spreadOver(int slot, int spread, int fitting) {
             int choices = ways[slot];
             // From behind, so that no TOP is written over that is still to be spread.
             for (int i = spread - 1; i >= 0; i--) {
                 int ahead = tops[i];
                 for (int number = choices - 1; number >= 0; number--) {
-                    tops[i * choices + number] = withWay(ahead, slot, number, sort);
+                    int way = slot * MOST_WAYS + number;
+                    boolean fits = (fitting >> number & 1) != 0;
+                    tops[i * choices + number] = fits ? joined(ahead, ranks[way], texts[way].end) : ahead;
                 }
             }
         }
 
-        private int withWay(int top, int slot, int number, int sort) {
-            int i = slot * MOST_WAYS + number;
-            return texts[i].addTo(top, ranks[i], sort);
+        /** As bits, so that a way is not asked anew for each TOP that it spreads. */
+        private int waysFitting(int slot, int sort) {
+            int set = 0;
+            for (int number = 0; number < ways[slot]; number++) {
+                if (texts[slot * MOST_WAYS + number].fitting.has(sort)) {
+                    set |= 1 << number;
+                }
+            }
+            return set;
         }
 
         private static int digitOf(int writing, int slot) {
@@ -1801,16 +1823,22 @@ public final class OneCode {
         }
 
         private void askCustoms(int sort) {
+            ends = 0;
             for (int custom = 0; custom < CUSTOMS; custom++) {
-                customEnds[custom] = endOf(rules.top(custom, sort));
+                int end = customPeople[custom] > 0 ? endOf(rules.top(custom, sort)) : GAP;
+                if (end >= 0) {
+                    customEnds[ends] = end;
+                    endPeople[ends] = customPeople[custom];
+                    ends++;
+                }
             }
         }
 
         private int peopleWith(int end) {
             int sum = 0;
-            for (int custom = 0; custom < CUSTOMS && end >= 0; custom++) {
-                if (customEnds[custom] == end) {
-                    sum += customPeople[custom];
+            for (int i = 0; i < ends; i++) {
+                if (customEnds[i] == end) {
+                    sum += endPeople[i];
                 }
             }
             return sum;
