@@ -24,6 +24,10 @@ final class Due {
         return wrong;
     }
 
+    static int checked() {
+        return checked;
+    }
+
     static void end() {
         System.out.println(checked + " checks, " + wrong + " wrong");
         if (wrong != 0 || checked == 0) {
