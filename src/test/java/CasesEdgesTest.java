@@ -357,6 +357,11 @@ public final class CasesEdgesTest {
         Due.be("four", z.left(0), 4);
         Due.be("half of them", z.parts(0, 1), 2);
         Due.be("the least sort of several", z.parts(0, 0), Due.sort(1, 0, 0, 0, 0, 0));
+        OneCode w = districts(1);
+        w.heard(0, 2, 1);
+        w.heard(0, 1, 0);
+        Due.be("half of four, by the goods", w.parts(0, 1), 2);
+        Due.be("not the first sort, but the second", w.parts(0, 0), 1);
     }
 
     /** Promise 26: "NONE: district, what, none" - district and what. */
@@ -496,6 +501,29 @@ public final class CasesEdgesTest {
         Due.be("ahead of the strike", x.moves(0, 0), 1536);
         x.days(1);
         Due.be("struck", x.moves(0, 0), 0);
+    }
+
+    /** Promise 27: "SORTS (what 0), PEOPLE (1), CASES (2)" - the most, and none. */
+    static void movesTheMostAndNone() {
+        OneCode x = new OneCode();
+        Due.custom(x, 0, 0, "void");
+        Due.feed(x, "holds");
+        Due.be("no people", x.moves(0, 1), 0);
+        Due.be("no cases", x.moves(0, 2), 0);
+        for (int d = 0; d < 8; d++) {
+            x.district(0, 99);
+        }
+        for (int i = 0; i < 100; i++) {
+            x.heard(i % 8, i, 1);
+        }
+        Due.be("all sorts", x.moves(0, 0), 1536);
+        Due.be("the most people", x.moves(0, 1), 1536 * 99 * 8);
+        Due.be("all cases", x.moves(0, 2), 100);
+        Due.be("the tape's text as a line", x.rule(5, 4, 0, 0, 0), 1);
+        Due.feed(x, "void");
+        Due.be("all its sorts", x.moves(1, 0), 1536);
+        Due.be("none under the code", x.moves(1, 1), 0);
+        Due.be("no cases under the code", x.moves(1, 2), 0);
     }
 
     /** Terms 3: "PEOPLE of the DISTRICTS under it NOW (a CUSTOM's: where the CODE is not in force; the CODE's: where it is), times these" */

@@ -528,6 +528,27 @@ public final class LandsEdgesTest {
         Due.be("of two the least bits", x.unlike(4, 1, 2), 1);
     }
 
+    /** Terms 2: "such that all SORTS that have the same in these are such, too" - all SORTS but the first, all but the last. */
+    static void allSortsButOne() {
+        OneCode x = new OneCode();
+        Due.custom(x, 0, 0, "void if what>0 or age>0 or house>0 or kids>0 or oath>0");
+        Due.custom(x, 0, 0, "void if goods>0");
+        Due.be("all but the first", x.unlike(0, 5, 0), 1535);
+        Due.be("the least is the second", x.unlike(0, 5, 1), 1);
+        Due.be("its goods show it", x.unlike(0, 5, 2), 32);
+        Due.be("one gap", x.wrong(0, 1, 0), 1);
+        Due.be("the first", x.wrong(0, 1, 1), 0);
+        Due.be("all fields show it", x.wrong(0, 1, 2), 63);
+        Due.custom(x, 1, 0, "void if what<3 or age<3 or house<2 or kids<3 or oath<1");
+        Due.custom(x, 1, 0, "void if goods<3");
+        Due.be("all but the last", x.unlike(5, 1, 0), 1535);
+        Due.be("the least is the first", x.unlike(5, 1, 1), 0);
+        Due.be("any field shows it: the least bits", x.unlike(5, 1, 2), 1);
+        Due.be("one gap at the end", x.wrong(1, 1, 0), 1);
+        Due.be("the last", x.wrong(1, 1, 1), 1535);
+        Due.be("all fields show the last", x.wrong(1, 1, 2), 63);
+    }
+
     /** Promise 20: "-5: none such" */
     static void wrongNone() {
         Still.rich("wrong none", x -> {

@@ -222,6 +222,44 @@ public final class NearEdgesTest {
         Due.be("none", x.near(2), NONE);
     }
 
+    /** Three WAYS in each of five SLOTS, of RANK 9: in each "void" where the digit is this one, else "to 3". */
+    private static OneCode mostWays(int best) {
+        OneCode x = customs();
+        for (int slot = 0; slot <= 4; slot++) {
+            for (int n = 0; n <= 2; n++) {
+                Due.be("way", Due.way(x, slot, 9, n == best ? "void" : "to 3"), n);
+            }
+        }
+        return x;
+    }
+
+    /** Terms 5: "WAYS (0 .. 2" in all "SLOTS 0 .. 4" - the most WRITINGS, of which one alone keeps anything: the first, the last, one between. */
+    static void theMostWritings() {
+        int[] all = {0, 0b0101010101, 0b1010101010};
+        for (int best = 0; best <= 2; best++) {
+            OneCode x = mostWays(best);
+            Due.be("near of 243", x.near(0), all[best]);
+            Due.be("how much it keeps", x.near(1), 768 * 10);
+            Due.be("so it keeps", x.keeps(all[best]), 768 * 10);
+            Due.be("no other", x.keeps(all[(best + 1) % 3]), 0);
+            Due.be("nor one of another way in the last slot", x.keeps(all[best] ^ (best == 0 ? 256 : 512)), best == 1 ? -5 : 0);
+        }
+        OneCode x = customs();
+        for (int slot = 0; slot <= 3; slot++) {
+            for (int n = 0; n <= 2; n++) {
+                Due.way(x, slot, slot, (n == 1 ? "void" : "to 3") + " if what=0 and age=" + slot);
+            }
+        }
+        Due.way(x, 4, 0, "to 3 if what=2");
+        Due.way(x, 4, 0, "holds if what=2 and goods=0");
+        Due.way(x, 4, 0, "holds if what=2");
+        Due.be("each slot for itself", x.near(0), 0b1001010101);
+        Due.be("what they keep together", x.near(1), 384 * 10 + 384 * 7);
+        Due.be("less in slot 4", x.keeps(0b0101010101), 384 * 10 + 96 * 7);
+        Due.be("less in slot 0", x.keeps(0b1001010100), 288 * 10 + 384 * 7);
+        Due.be("less in slot 3", x.keeps(0b1010010101), 288 * 10 + 384 * 7);
+    }
+
     /** Terms 5: "The WRITING that keeps most; of several that with the lesser WAY in SLOT 0, then 1, and so on" */
     static void theFirstOfSeveral() {
         for (int slot = 0; slot <= 4; slot++) {

@@ -198,6 +198,14 @@ public final class PersonsEdgesTest {
                 Due.be("die(" + p + ")", x.die(p), STATE);
             }
         });
+        for (String end : new String[] {"void", ""}) {
+            OneCode x = family(end, 150, 2);
+            x.die(1);
+            x.goes(2, 0);
+            x.die(2);
+            Due.be("once more, with fewer children", x.die(1), STATE);
+            Due.be("its sort is as it was", x.personOf(1, 4), Due.sort(2, 0, 0, 2, 0, 1));
+        }
     }
 
     /** Promise 31: "NONE; STATE: it is not so" - NONE. */
@@ -317,6 +325,28 @@ public final class PersonsEdgesTest {
         x.die(3);
         x.die(1);
         parted("living ones alone", x, 0, 0, 4, 0, 4, 3, 0);
+    }
+
+    /** Terms 4: "PERSONS 0 .. 29" and "1: to all living children evenly, coins left over 1 each by numbers" - the most children. */
+    static void theMostChildren() {
+        OneCode x = dead("to 1", 9999, 28);
+        for (int child = 0; child < 28; child++) {
+            Due.be("child " + child, x.personOf(2 + child, 2), child < 3 ? 358 : 357);
+        }
+        Due.be("kids", x.personOf(1, 4), Due.sort(2, 0, 0, 3, 0, 3));
+        OneCode y = dead("to 3", 9999, 28);
+        Due.be("half to the eldest", y.personOf(2, 2), 4999);
+        for (int child = 1; child < 28; child++) {
+            Due.be("child " + child, y.personOf(2 + child, 2), child <= 5 ? 186 : 185);
+        }
+        for (String end : new String[] {"to 0", "to 1", "to 2", "to 3", "holds", "owed 99"}) {
+            OneCode z = family(end, 5, 28);
+            z.goes(29, 0);
+            int due = z.die(29);
+            Due.be("the last of thirty, without children by " + end, z.personOf(29, 3), 1);
+            Due.be("all are there", z.chest(-1), 5);
+            Due.hold("an end", due >= 0);
+        }
     }
 
     /** Terms 4: "2: to its parent, if that lives" */

@@ -431,7 +431,7 @@ public final class RulesEdgesTest {
         OneCode x = new OneCode();
         Due.be("a rule", Due.custom(x, 0, 0, "holds if age=1"), 0);
         Due.be("is empty", x.count(9), 0);
-        Due.be("a fault", Due.custom(x, 0, 0, "holds if age=1 x"), -25);
+        Due.be("a fault", Due.custom(x, 0, 0, "holds unless age=1 x"), -29);
         Due.be("is empty, too", x.count(9), 0);
         Due.be("nothing of it is left", Due.custom(x, 0, 0, "void"), 1);
         Due.be("its end", x.ruleOf(1, 4), 0);

@@ -34,6 +34,7 @@ final class Still {
         part(Still::askTable);
         part(Still::askTape);
         part(Still::askSheets);
+        part(Still::askItems);
         part(Still::askLives);
         part(Still::askOneMore);
         part(Still::askLater);
@@ -228,7 +229,7 @@ final class Still {
         ask("count(9) then", x -> x.count(9));
     }
 
-    /** Sorts, lengths and items: as CASES whose FORMS show the SORT, and whose QUARREL shows the END. */
+    /** Their sorts and lengths. */
     private static void askSheets() {
         for (int s = 0; s <= 2; s++) {
             int sheet = s;
@@ -242,20 +243,30 @@ final class Still {
             }
             ask("copy(" + sheet + ", 40, itself)", x -> x.copy(sheet, 40, sheet, 40, 0));
         }
-        ask("district(3, 1)", x -> x.district(3, 1));
-        ask("read(3, 0, 1, 0)", x -> x.read(3, 0, 1, 0));
-        ask("heard(3, 0, 100)", x -> x.heard(3, 0, 100));
-        ask("left(3) then", x -> x.left(3));
+    }
+
+    /** As CASES whose FORMS show the SORT, and whose QUARREL shows the END. */
+    private static void askItems() {
+        for (int i = 0; i < 3; i++) {
+            ask("district(3, 1)", x -> x.district(3, 1));
+        }
+        askItemsIn(3, 0, World.LAID, 203);
+        askItemsIn(4, 1, Due.sort(0, 0, 1, 0, 0, 0), 0);
+        // The last two items, in place of the first two.
+        ask("copy(0, 7, 0, 0, 2)", x -> x.copy(0, 7, 0, 0, 2));
+        askItemsIn(5, 0, Due.sort(0, 0, 0, 3, 1, 2), 203);
+    }
+
+    private static void askItemsIn(int district, int sheet, int sort, int end) {
+        ask("read(" + district + ", " + sheet + ", 1, 0)", x -> x.read(district, sheet, 1, 0));
+        ask("heard(" + district + ", 0, 100)", x -> x.heard(district, 0, 100));
+        ask("left(" + district + ") then", x -> x.left(district));
         for (int n = 0; n <= 26; n++) {
             int i = n;
-            ask("form(3, " + i + ") then", x -> x.form(3, i));
+            ask("form(" + district + ", " + i + ") then", x -> x.form(district, i));
         }
-        ask("heard(3, as laid, 203)", x -> x.heard(3, World.LAID, 203));
-        ask("quarrel(3, 0) then", x -> x.quarrel(3, 0));
-        ask("copy(1, 0, 0, 0, 7)", x -> x.copy(1, 0, 0, 0, 7));
-        ask("read(3, 0, 1, 0) again", x -> x.read(3, 0, 1, 0));
-        ask("read(3, 1, 1, 0)", x -> x.read(3, 1, 1, 0));
-        ask("left(3) at last", x -> x.left(3));
+        ask("heard(" + district + ", as laid)", x -> x.heard(district, sort, end));
+        ask("quarrel(" + district + ", 0) then", x -> x.quarrel(district, 0));
     }
 
     /** Who lives where: all die, and all that can be settled is. */
