@@ -174,6 +174,38 @@ public final class NearEdgesTest {
         Due.be("and keeps as much", x.near(1), 768 * 7);
     }
 
+    /** Terms 5: "A WRITING takes one WAY of each SLOT that has some" - also of one that has but one. */
+    static void oneWayAlone() {
+        for (int slot = 0; slot <= 4; slot++) {
+            OneCode x = customs();
+            Due.be("the one way", Due.way(x, slot, 0, "void if what=0"), 0);
+            Due.be("it is taken", x.near(0), 0);
+            Due.be("it keeps where it fits alone", x.near(1), 384 * 10);
+            Due.be("as it is", x.keeps(0), 384 * 10);
+            Due.be("line", Due.line(x, 0, "void if what=1"), 2);
+            Due.be("beside a line", x.near(1), 768 * 10);
+            Due.be("one way of another slot, that clashes", Due.way(x, (slot + 1) % 5, 0, "holds if what=0"), 0);
+            Due.be("both are taken", x.near(1), 384 * 10);
+        }
+    }
+
+    /** Terms 5: "over DISTRICTS and SORTS the PEOPLE, where ANSWER of the CODE's LINES and these is that of the CUSTOM" - of all five CUSTOMS. */
+    static void allCustoms() {
+        OneCode x = new OneCode();
+        for (int custom = 0; custom <= 4; custom++) {
+            Due.be("rule", Due.custom(x, custom, 0, "owed " + custom), custom);
+            Due.be("district", x.district(custom, 1 + custom), custom);
+        }
+        Due.way(x, 0, 0, "owed 4");
+        Due.way(x, 0, 0, "owed 00");
+        Due.way(x, 0, 0, "owed 5");
+        Due.be("that of custom 4", x.keeps(0), 1536 * 5);
+        Due.be("that of custom 0", x.keeps(1), 1536);
+        Due.be("that of none", x.keeps(2), 0);
+        Due.be("near", x.near(0), 0);
+        Due.be("near, how much", x.near(1), 1536 * 5);
+    }
+
     /** Terms 5: "CLASHES and GAPS are never KEPT" */
     static void clashesAndGapsAreNeverKept() {
         OneCode x = new OneCode();
