@@ -238,6 +238,20 @@ public final class PersonsEdgesTest {
             Due.be("a gap still", x.settle(5), GAP);
             Due.be("a clash still", x.settle(3), CLASH);
         });
+        // Nor when more days have come and fewer children live than when one died.
+        OneCode x = dead("", 150, 2);
+        x.days(1);
+        Due.be("a child dies", x.die(2), 0);
+        Due.be("a gap still", x.settle(1), GAP);
+        Due.be("its sort is as it was", x.personOf(1, 4), Due.sort(2, 0, 0, 2, 0, 1));
+        Due.be("quarrelled still", x.personOf(1, 3), 2);
+        parted("unsettled", x, 0, 150, 0, 0, 0);
+        Due.be("a clash comes", Due.custom(x, 0, 0, "void if kids=2"), 1);
+        Due.be("a clash comes", Due.custom(x, 0, 0, "to 0 if kids=2"), 2);
+        Due.be("a clash now", x.settle(1), CLASH);
+        Due.be("its sort is as it was", x.personOf(1, 4), Due.sort(2, 0, 0, 2, 0, 1));
+        Due.be("quarrelled still", x.personOf(1, 3), 2);
+        parted("unsettled", x, 0, 150, 0, 0, 0);
     }
 
     // ---- the dead
