@@ -545,4 +545,18 @@ public final class CasesEdgesTest {
         Due.be("no case of the custom", x.moves(0, 2), 0);
         Due.be("case of the code", x.moves(1, 2), 1);
     }
+
+    /** Terms 3: "PEOPLE of the DISTRICTS under it NOW (a CUSTOM's: where the CODE is not in force; the CODE's: where it is), times these" - with the CODE from the first DAY on. */
+    static void movesWithTheCodeFromTheFirstDay() {
+        OneCode x = districts(6);
+        Due.custom(x, 0, 0, "void");
+        Due.line(x, 0, "void");
+        x.heard(5, 9, 0);
+        Due.be("from day 0 on", x.carried(5, 0), 1);
+        Due.feed(x, "holds");
+        Due.be("custom, on day 0", x.moves(0, 1), 1536);
+        Due.be("code, on day 0", x.moves(1, 1), 1536 * 6);
+        Due.be("no case of the custom", x.moves(0, 2), 0);
+        Due.be("case of the code", x.moves(1, 2), 1);
+    }
 }
