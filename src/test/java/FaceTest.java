@@ -2,11 +2,18 @@ import java.lang.reflect.Constructor;
 import java.lang.reflect.Field;
 import java.lang.reflect.Method;
 import java.lang.reflect.Modifier;
+import java.nio.file.Files;
+import java.nio.file.Path;
 import java.util.Set;
 import java.util.TreeMap;
 import java.util.TreeSet;
+import java.util.regex.Matcher;
+import java.util.regex.Pattern;
 
-/** That the class shows the document's face and nothing else. */
+/**
+ * That the class shows the document's face and nothing else, and says ahead of the calls what the
+ * document says of them there.
+ */
 public final class FaceTest {
     private static final String FACE = "days 1, feed 2, rule 5, strike 2, fall 1, ruleOf 2, fits 2, answer 4, why 5, "
         + "district 2, carried 2, law 5, deed 2, deedEnd 3, lost 2, courts 1, court 4, unlike 3, wrong 3, heard 3, "
@@ -24,7 +31,44 @@ public final class FaceTest {
         methods();
         others();
         inside();
+        String doc = Files.readString(Path.of("../shared/DOC.md"));
+        String source = Files.readString(Path.of("src/main/java/OneCode.java"));
+        asWritten(doc, source);
+        headings(doc, source);
         Due.end();
+    }
+
+    /** Each line of the document's face stands in the class, with the same names, and in the same order. */
+    private static void asWritten(String doc, String source) {
+        Matcher face = Pattern.compile("\\n    (public [^\\n]*);").matcher(doc);
+        int lines = 0;
+        int at = 0;
+        while (face.find()) {
+            String written = face.group(1);
+            int found = source.indexOf("\n    " + written + (written.endsWith(")") ? " {" : ";"));
+            // The constructor stands behind the constants and fields, ahead of all calls.
+            Due.hold(written + " stands there in its order", found > at);
+            at = Math.max(at, found);
+            lines++;
+        }
+        Due.be("lines of the face", lines, 1 + 1 + 50);
+    }
+
+    /** "Ahead of the calls .. the interface says: ---- .." */
+    private static void headings(String doc, String source) {
+        Matcher ahead = Pattern.compile("Ahead of the calls (`.*`) the interface says: (---- .*)\\.\\n").matcher(doc);
+        int named = 0;
+        while (ahead.find()) {
+            int heading = source.indexOf("\n    // " + ahead.group(2) + "\n");
+            int next = source.indexOf("\n    // ----", heading + 1);
+            Due.hold("the class says " + ahead.group(2), heading > 0);
+            for (String call : ahead.group(1).replace("`", "").split(", ")) {
+                int at = source.indexOf("\n    public int " + call + "(");
+                Due.hold(call + " stands behind " + ahead.group(2), at > heading && (next < 0 || at < next));
+                named++;
+            }
+        }
+        Due.be("calls named there", named, 50);
     }
 
     private static void methods() {

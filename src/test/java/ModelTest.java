@@ -1,6 +1,10 @@
-/** Long runs of thrown calls, answered by OneCode and by the Model alike. */
+/**
+ * Long runs of thrown calls, answered by OneCode and by the Model alike; in some all that can be full
+ * is filled first.
+ */
 public final class ModelTest {
     private static final int RUNS = 350;
+    private static final int FULL_RUNS = 40;
     // No more calls than the document speaks of; behind the steps the rest of them only asks.
     private static final int CALLS = 512;
     private static final int LAST_STEP = 400;
@@ -24,7 +28,90 @@ public final class ModelTest {
                 ask();
             }
         }
+        for (; run < RUNS + FULL_RUNS && Due.wrong() < 20; run++) {
+            x = new OneCode();
+            m = new Model();
+            d = new Dice(run);
+            calls = 0;
+            fill(d.from(0, 12));
+            int[] most = {80, 8, 100, 30};
+            for (int what = 0; what < most.length; what++) {
+                be("count when full", x.count(what), most[what], what);
+            }
+            while (calls < CALLS - 45) {
+                step(d.below(7));
+            }
+            Due.hold("no more calls than 512: " + calls, calls <= CALLS);
+        }
         Due.end();
+    }
+
+    /** To the brim, but for THE TAPE, which is there to be read; some RULES have a TEST. */
+    private static void fill(int tested) {
+        for (int i = 0; i < 8; i++) {
+            int c = d.from(0, 4);
+            int p = d.from(1, 99);
+            be("district", x.district(c, p), m.district(c, p), c, p);
+        }
+        fillRules(tested);
+        for (int i = 0; i < 60; i++) {
+            int k = d.below(8);
+            int s = anySort();
+            be("deed", x.deed(k, Math.max(s, 0) % 1536), m.deed(k, Math.max(s, 0) % 1536), k, s);
+            if (i % 10 == 0) {
+                someDays();
+            }
+        }
+        for (int i = 0; i < 100; i++) {
+            int k = d.below(8);
+            int s = d.below(1536);
+            int e = d.chance(95) ? s % 4 > 1 ? 200 : 1 : 0;
+            be("heard", x.heard(k, s, e), m.heard(k, s, e), k, s, e);
+        }
+        for (int i = 0; i < 30; i++) {
+            int k = d.below(8);
+            int parent = d.from(-1, Math.min(i - 1, 4));
+            int coins = d.below(9999);
+            be("person", x.person(k, parent, 1, 1, 1, coins), m.person(k, parent, 1, 1, 1, coins), k, parent, coins);
+        }
+        for (int i = 0; i < 9; i++) {
+            be("line", x.line(i), m.line(i), i);
+            be("section", x.section(), m.section());
+        }
+        fillWays();
+    }
+
+    private static void fillRules(int tested) {
+        for (int i = 0; i < 80; i++) {
+            boolean ofCode = d.chance(40);
+            int kind = ofCode ? d.from(4, 5) : d.from(1, 3);
+            int body = ofCode ? 5 : d.from(0, 4);
+            int rank = d.from(0, 9);
+            int witnesses = kind == 2 ? d.from(1, 20) : 0;
+            feedWhole(i < tested ? "to " + d.below(4) + " if " + d.test().replace("not ", "") : "to " + d.below(4));
+            be("rule", x.rule(body, kind, rank, 0, witnesses), m.rule(body, kind, rank, 0, witnesses), body, kind, rank);
+        }
+    }
+
+    private static void fillWays() {
+        for (int i = 0; i < 15; i++) {
+            int slot = i % 5;
+            int rank = d.from(0, 9);
+            feedWhole("to " + d.below(4));
+            be("way", x.way(slot, rank), m.way(slot, rank), slot, rank);
+        }
+    }
+
+    /** Four bytes a call, as few calls as can be. */
+    private static void feedWhole(String text) {
+        for (int i = 0; i < text.length(); i += 4) {
+            int n = Math.min(4, text.length() - i);
+            int number = 0;
+            for (int j = 0; j < n; j++) {
+                number = number << 8 | text.charAt(i + j);
+            }
+            be("feed", x.feed(number, n), m.feed(number, n), number, n);
+        }
     }
 
     private static void be(String call, int got, int want, int... args) {

@@ -11,15 +11,16 @@ import java.util.stream.Collectors;
 import java.util.stream.Stream;
 
 /**
- * The tests of boundary cases name sentences of the document: each quoted sentence stands where the
- * comment says, each such test has one, and no word of the document that names a boundary is without one.
+ * The tests of boundary cases, of sentences and of long runs name sentences of the document: each quoted
+ * sentence stands where the comment says, each such test has one, and no word of the document from 'What
+ * it is' to Promise 51 is without one. (FaceTest looks at 'The public face' and at what the interface says.)
  */
 public final class QuotesTest {
-    private static final Pattern LABEL_OR_QUOTE = Pattern.compile("(Promise \\d+|Terms \\d|What it is): |\"([^\"]+)\"");
+    private static final Pattern LABEL_OR_QUOTE = Pattern.compile("(Promise \\d+|Terms \\d|What it is|Answers): |\"([^\"]+)\"");
     private static final Pattern TEST = Pattern.compile("/\\*\\*((?:(?!\\*/).)*)\\*/\\s+static void (\\w+)\\(\\)", Pattern.DOTALL);
-    private static final Pattern BOUNDARY = Pattern.compile("\\b(NONE|BAD|STATE|FULL)\\b|-\\d+|-?\\d+ \\.\\. -?\\d+"
-        + "|at most|at first|or more|and more|or later|wrapping|left over|more than|no more|nobody|nothing|least\\b"
-        + "|\\b(none|cut|without|ahead of|too early|itself|round|also|still|first)\\b");
+    private static final Pattern WORDS = Pattern.compile("[^.;]*\\w[^.;]*");
+    // No call can show it, as it promises nothing.
+    private static final String FREE = "what later calls answer is free";
     private static final Map<String, String> SECTIONS = new HashMap<>();
     private static final Map<String, BitSet> QUOTED = new HashMap<>();
 
@@ -27,7 +28,7 @@ public final class QuotesTest {
         readDocument(Files.readString(Path.of("../shared/DOC.md")));
         Due.be("promises in the document", SECTIONS.keySet().stream().filter(s -> s.startsWith("Promise")).count(), 51);
         Due.be("parts of the terms", SECTIONS.keySet().stream().filter(s -> s.startsWith("Terms")).count(), 6);
-        for (Path file : edgeTests()) {
+        for (Path file : quotingTests()) {
             lookAt(file.getFileName().toString(), Files.readString(file));
         }
         for (String section : SECTIONS.keySet()) {
@@ -36,14 +37,15 @@ public final class QuotesTest {
         Due.end();
     }
 
-    private static List<Path> edgeTests() throws IOException {
+    private static List<Path> quotingTests() throws IOException {
+        Pattern name = Pattern.compile(".*(Edges|Sentences|LongRuns)Test\\.java");
         try (Stream<Path> files = Files.list(Path.of("src/test/java"))) {
-            return files.filter(f -> f.toString().endsWith("EdgesTest.java")).sorted().collect(Collectors.toList());
+            return files.filter(f -> name.matcher(f.toString()).matches()).sorted().collect(Collectors.toList());
         }
     }
 
     private static String oneLine(String text) {
-        return text.replaceAll("\\s+", " ");
+        return text.replaceAll("```(text)?", " ").replaceAll("\\s+", " ");
     }
 
     private static void readDocument(String doc) {
@@ -55,9 +57,13 @@ public final class QuotesTest {
         while (terms.find()) {
             SECTIONS.put("Terms " + terms.group(1), oneLine(terms.group(2)));
         }
-        Matcher what = Pattern.compile("## (What it is)\\n.*?\\n\\n(An object .*?)(?=\\n## )", Pattern.DOTALL).matcher(doc);
+        Matcher what = Pattern.compile("## (What it is)\\n(.*?)(?=\\n## )", Pattern.DOTALL).matcher(doc);
         while (what.find()) {
-            SECTIONS.put(what.group(1), oneLine(what.group(2)));
+            SECTIONS.put(what.group(1), oneLine(what.group(2)).trim());
+        }
+        Matcher answers = Pattern.compile("\n(Answers): (.*)\n").matcher(doc);
+        while (answers.find()) {
+            SECTIONS.put(answers.group(1), answers.group(2));
         }
         for (String section : SECTIONS.keySet()) {
             QUOTED.put(section, new BitSet());
@@ -111,11 +117,12 @@ public final class QuotesTest {
 
     private static void lookForUnquoted(String section) {
         String text = SECTIONS.get(section);
-        Matcher m = BOUNDARY.matcher(text);
-        while (m.find()) {
-            boolean quoted = QUOTED.get(section).get(m.start(), m.end()).cardinality() == m.end() - m.start();
-            String near = text.substring(Math.max(0, m.start() - 40), Math.min(text.length(), m.end() + 40));
-            Due.hold(section + ": a test names <" + m.group() + "> in <" + near + ">", quoted);
+        BitSet quoted = QUOTED.get(section);
+        for (int at = quoted.nextClearBit(0); at < text.length(); at = quoted.nextClearBit(at)) {
+            int end = quoted.nextSetBit(at);
+            String bare = text.substring(at, end < 0 ? text.length() : end);
+            Due.hold(section + ": a test names <" + bare + ">", !WORDS.matcher(bare.replace(FREE, "")).find());
+            at += bare.length();
         }
     }
 }
