@@ -1929,6 +1929,8 @@ public final class OneCode {
     /** The ROW in which DISTRICTS are taught. */
     private static final class Lessons {
         private static final int ALONE = -1;
+        // More than any ROW waits: 8 DISTRICTS of 12 MONTHS with 99 CASES come to 42768.
+        private static final int BEYOND_ALL = 1000000;
         private final int[] months = new int[Districts.MOST_DISTRICTS];
         private final int[] waiting = new int[Districts.MOST_DISTRICTS];
         private final int[] behind = new int[Districts.MOST_DISTRICTS];
@@ -1955,7 +1957,7 @@ public final class OneCode {
             int all = (1 << n) - 1;
             stillWaits[all] = 0;
             for (int done = all - 1; done >= 0; done--) {
-                int best = Integer.MAX_VALUE;
+                int best = BEYOND_ALL;
                 for (int d = 0; d < n; d++) {
                     if (mayFollow(d, done)) {
                         best = Math.min(best, waitsIfNext(d, done));

@@ -14,6 +14,10 @@ public final class LanguageTest {
         "^ +(?:(?:public|private|static|final) )*[A-Z]?\\w+(?:\\[\\])* (\\w+)\\((.*)\\) \\{$");
     private static final Pattern MAKER = Pattern.compile("^ +(?:public )?([A-Z]\\w+)\\((.*)\\) \\{$");
     private static final Pattern CALL = Pattern.compile("\\b([a-z]\\w*)\\(");
+    // Of the library's classes only functions are told, and of these only some.
+    private static final Pattern LIBRARY = Pattern.compile("\\b(Integer|Long|Math|Arrays|System|String)\\.(\\w+)(\\(?)");
+    private static final Set<String> TOLD = Set.of("Integer.bitCount", "Long.bitCount", "Math.min", "Math.max", "Arrays.fill",
+        "System.arraycopy");
     private static final Set<String> NO_CALLS = Set.of("if", "for", "while", "switch", "return");
     private static final Map<String, Set<String>> calls = new HashMap<>();
 
@@ -37,6 +41,11 @@ public final class LanguageTest {
             String line = bare(lines.get(i));
             Matcher m = forbidden.matcher(line);
             Due.hold("line " + (i + 1) + " has no such word: " + line, !m.find());
+            Matcher library = LIBRARY.matcher(line.startsWith("import ") ? "" : line);
+            while (library.find()) {
+                Due.hold("line " + (i + 1) + " calls what is told: " + library.group(), library.group(3).equals("(")
+                    && TOLD.contains(library.group(1) + "." + library.group(2)));
+            }
             Due.hold("line " + (i + 1) + " has signs 1 to 127", line.chars().allMatch(c -> c > 0 && c < 128));
             Due.hold("line " + (i + 1) + " is short", lines.get(i).length() <= 120);
             if (line.startsWith("import ")) {

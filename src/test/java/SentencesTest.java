@@ -307,10 +307,18 @@ public final class SentencesTest {
         Due.rule(x, "to 0", 0, 1, 9, 0, 0);
         Due.rule(x, "to 1", 5, 4, 9, 0, 0);
         Due.rule(x, "to 2", 5, 5, 9, 0, 0);
-        int[][] days = {{1, 2, 200}, {6, 7, 201}, {1, 7, 202}};
+        int[][] days = {{1, 2, 200}, {4, 4, 200}, {6, 7, 201}, {5, 5, 201}, {1, 7, 202}, {4, 5, 202}};
         for (int[] d : days) {
             Due.be("known ahead of these", x.law(0, 0, d[0], d[1], 2), lawDue(0, d[0], d[1]));
             Due.be("known when these are", x.law(0, 0, d[0], d[1], 3), d[2]);
+        }
+        x.days(7);
+        x.strike(24, 0);
+        x.strike(25, 0);
+        x.strike(26, 0);
+        for (int[] d : days) {
+            Due.be("struck, not known on 9", x.law(0, 0, d[0], d[1] + 20, 9), d[0] >= 5 ? 201 : 202);
+            Due.be("struck, known on 10", x.law(0, 0, d[0], d[1] + 20, 10), d[0] >= 5 ? 110 + d[0] : 100 + d[0]);
         }
     }
 
@@ -361,6 +369,109 @@ public final class SentencesTest {
                 int want = one || r == 0 ? ofFirst[goods] : r == 1 ? ofSecond[goods] : -4;
                 Due.be("court for goods " + goods + " by rule " + r, x.court(0, 1, goods, 0), want);
             }
+        }
+    }
+
+    /** Nothing but RULES told on DAY 20: of each BODY one from DAY 0 on (END owed BODY), another from DAY 22 on. */
+    private static OneCode toldOnDay20() {
+        OneCode x = new OneCode();
+        x.days(20);
+        for (int body = 0; body <= 5; body++) {
+            Due.rule(x, "owed " + body, body, body < 5 ? 1 : 4, 0, 0, 0);
+            Due.rule(x, "holds", body, body < 5 ? 3 : 4, 0, 22, 0);
+        }
+        return x;
+    }
+
+    /**
+     * Terms 2: "UNLIKE of two BODIES (LINES of the CODE), AS OF and KNOWN NOW: SORTS with unlike ANSWERS"
+     * Terms 2: "CLASHES, GAPS of one: SORTS with that ANSWER."
+     */
+    static void bodiesAsOfAndKnownNow() {
+        OneCode x = toldOnDay20();
+        for (int turn = 0; turn < 2; turn++) {
+            for (int a = 0; a <= 5; a++) {
+                for (int b = 0; b <= 5; b++) {
+                    Due.be("unlike " + a + " " + b, x.unlike(a, b, 0), a == b || turn == 1 ? 0 : 1536);
+                }
+                Due.be("clashes of " + a, x.wrong(a, 0, 0), turn == 0 ? 0 : 1536);
+                Due.be("gaps of " + a, x.wrong(a, 1, 0), 0);
+            }
+            // All BODIES clash when the others come in force.
+            x.days(turn == 0 ? 2 : 1);
+        }
+        for (int rule = 0; rule < 12; rule++) {
+            x.strike(rule, 24);
+        }
+        Due.be("still clashes", x.wrong(3, 0, 0), 1536);
+        x.days(1);
+        Due.be("gaps, as all are struck from now on", x.wrong(3, 1, 0), 1536);
+        Due.be("no clashes", x.wrong(3, 0, 0), 0);
+    }
+
+    /**
+     * Terms 3: "with the text of a RULE as THE TAPE has it in place of its own, AS OF and KNOWN NOW"
+     * - whatever the RULE's number is.
+     */
+    static void movesAsOfAndKnownNow() {
+        OneCode x = toldOnDay20();
+        Due.feed(x, "void");
+        for (int rule = 0; rule < 12; rule++) {
+            Due.be("moves of " + rule, x.moves(rule, 0), rule % 2 == 0 ? 1536 : 0);
+        }
+        x.days(2);
+        for (int rule = 0; rule < 12; rule++) {
+            Due.be("a clash before and behind", x.moves(rule, 0), 0);
+        }
+        x.strike(0, 22);
+        Due.be("alone", x.moves(1, 0), 1536);
+        Due.be("struck", x.moves(0, 0), 0);
+    }
+
+    /**
+     * Promise 16: "LOST DEEDS of a DISTRICT (-1: of all): how many (what 0), the first (1; -1)."
+     * Terms 2: "It is LOST, if its END, judged and KNOWN NOW, is another one than judged and KNOWN on its own DAY."
+     */
+    static void lostAsTheirEndsTell() {
+        Dice d = new Dice(16);
+        for (int turn = 0; turn < 60; turn++) {
+            OneCode x = new OneCode();
+            int[] days = new int[30];
+            int[] where = new int[30];
+            for (int i = 0; i < 5; i++) {
+                x.district(i % 3, 1);
+            }
+            for (int i = 0; i < 30; i++) {
+                int body = d.chance(50) ? 5 : d.below(3);
+                Due.rule(x, d.text(), body, body == 5 ? d.from(4, 5) : d.chance(50) ? 1 : 3, d.below(3), d.below(40), 0);
+                where[i] = d.below(5);
+                days[i] = x.count(6);
+                Due.be("deed", x.deed(where[i], d.below(1536)), i);
+                if (d.chance(40)) {
+                    x.carried(d.below(5), days[i] + d.below(20));
+                }
+                x.strike(d.below(60), d.below(40));
+                x.days(d.from(1, 2));
+            }
+            lostOf(x, days, where);
+        }
+    }
+
+    private static void lostOf(OneCode x, int[] days, int[] where) {
+        int now = x.count(6);
+        int[] sums = new int[6];
+        int[] firsts = {-1, -1, -1, -1, -1, -1};
+        for (int i = 29; i >= 0; i--) {
+            if (x.deedEnd(i, now, now) != x.deedEnd(i, days[i], days[i])) {
+                sums[where[i]]++;
+                sums[5]++;
+                firsts[where[i]] = i;
+                firsts[5] = i;
+            }
+        }
+        for (int i = 0; i < 6; i++) {
+            Due.be("lost in " + i, x.lost(i < 5 ? i : -1, 0), sums[i]);
+            Due.be("the first lost in " + i, x.lost(i < 5 ? i : -1, 1), firsts[i]);
         }
     }
 
@@ -419,6 +530,28 @@ public final class SentencesTest {
             }
             Due.be("another end", x.heard(1, Due.sort(1, 1, 2, 2, 1, 1), 101), 9);
             Due.be("the last was read", x.quarrel(1, 0), 6);
+        }
+    }
+
+    /** Promise 22: "BAD: a FIELD, the END" - a FIELD below or above, however the others are. */
+    static void fieldsOfNoSuchValue() {
+        for (int f = 0; f < 6; f++) {
+            for (int others = 0; others < 2; others++) {
+                OneCode x = new OneCode();
+                x.district(0, 1);
+                x.sheet(0, 2, 7);
+                for (int i = 0; i < 6; i++) {
+                    x.cell(0, i, others);
+                }
+                for (int v : new int[] {-1, -2, SIZES[f], SIZES[f] + 1, Integer.MIN_VALUE, Integer.MAX_VALUE}) {
+                    x.cell(0, f, v);
+                    Due.be(NAMES[f] + " " + v + ", others " + others, x.read(0, 0, 2, 0), -2);
+                }
+                for (int v = 0; v < SIZES[f]; v++) {
+                    x.cell(0, f, v);
+                    Due.be(NAMES[f] + " " + v, x.read(0, 0, 2, 0), v);
+                }
+            }
         }
     }
 
@@ -615,6 +748,30 @@ public final class SentencesTest {
         }
     }
 
+    /** Terms 4: "Where there is nobody: to the CHEST." - of the DISTRICT of the dead, whatever its number and COINS are. */
+    static void chestWhereThereIsNobody() {
+        String[] texts = {"holds", "owed 42", "to 0", "to 1", "to 2", "to 3"};
+        for (String text : texts) {
+            OneCode x = new OneCode();
+            for (int i = 0; i < 8; i++) {
+                x.district(0, 1);
+            }
+            Due.custom(x, 0, 0, text);
+            int[] chests = new int[8];
+            for (int i = 0; i < 30; i++) {
+                int coins = i * 331 % 10000;
+                Due.be("person", x.person(i * 3 % 8, -1, 0, 0, 0, coins), i);
+                chests[i * 3 % 8] += coins;
+            }
+            for (int i = 29; i >= 0; i--) {
+                x.die(i);
+            }
+            for (int i = 0; i < 8; i++) {
+                Due.be("chest of " + i + " by " + text, x.chest(i), chests[i]);
+            }
+        }
+    }
+
     /** Promise 31: "One QUARRELLED over is SETTLED: the ANSWER (if that is a CLASH or GAP still, nothing is changed)." */
     static void settled() {
         OneCode x = new OneCode();
@@ -679,6 +836,58 @@ public final class SentencesTest {
         Due.be("a line in force now", x.keeps(0), 384 * 3);
     }
 
+    /**
+     * Terms 5: "KEPT: over DISTRICTS and SORTS the PEOPLE, where ANSWER of the CODE's LINES and these is that of the
+     * CUSTOM" - of all DISTRICTS whose CUSTOMS give it, be it one CUSTOM or several.
+     */
+    static void keptByAllThatGiveIt() {
+        OneCode x = new OneCode();
+        int[] customs = {0, 1, 2, 3, 4, 1, 0};
+        int[] people = {1, 2, 4, 8, 16, 32, 64};
+        String[] ends = {"holds", "holds", "void", "holds", "void"};
+        int holds = 0;
+        for (int i = 0; i < customs.length; i++) {
+            x.district(customs[i], people[i]);
+            holds += ends[customs[i]].equals("holds") ? people[i] : 0;
+        }
+        for (int custom = 0; custom < 5; custom++) {
+            Due.custom(x, custom, 0, ends[custom] + " if age=1");
+        }
+        Due.way(x, 0, 0, "void");
+        Due.way(x, 0, 0, "holds");
+        Due.way(x, 0, 0, "to 1");
+        Due.be("void", x.keeps(0), 384 * (127 - holds));
+        Due.be("holds", x.keeps(1), 384 * holds);
+        Due.be("to 1", x.keeps(2), 0);
+        Due.be("the best", x.near(0), 1);
+        Due.be("what it keeps", x.near(1), 384 * holds);
+    }
+
+    /**
+     * Promise 36: "The WRITING that keeps most (what 0, as digits), how much (1)."
+     * Terms 5: "(AS OF and KNOWN NOW; CLASHES and GAPS are never KEPT)" - KNOWN NOW and in force NOW, the CUSTOMS and the LINES.
+     */
+    static void nearAsOfAndKnownNow() {
+        OneCode x = new OneCode();
+        x.days(9);
+        x.district(4, 3);
+        Due.rule(x, "holds", 4, 1, 0, 0, 0);
+        Due.rule(x, "void", 4, 1, 1, 11, 0);
+        Due.rule(x, "to 0", 5, 4, 9, 13, 0);
+        Due.way(x, 4, 0, "void");
+        Due.way(x, 4, 0, "holds");
+        Due.be("known now", x.near(0), 256);
+        Due.be("all", x.near(1), 1536 * 3);
+        Due.be("keeps", x.keeps(256), 1536 * 3);
+        x.days(2);
+        Due.be("in force now", x.near(0), 0);
+        Due.be("all again", x.near(1), 1536 * 3);
+        Due.be("keeps no more", x.keeps(256), 0);
+        x.days(2);
+        Due.be("the line is in force: nothing is kept, so the first", x.near(0), 0);
+        Due.be("nothing", x.near(1), 0);
+    }
+
     // ---- SECTIONS, LANDS
 
     /**
@@ -717,18 +926,17 @@ public final class SentencesTest {
      */
     static void leastYielding() {
         int[][] costs = {{5, 2, 2}, {4, 2, 2}, {4, 2, 1}, {3, 4, 4}, {0, 0, 0}, {1, 0, 0}};
-        int[][] likings = {{-6, -3, -3}, {-6, -3, -3}, {-6, -3, -3}, {-6, -3, -3}, {-6, -3, -3}, {-6, -3, -3}};
-        int[] sets = {7, 7, 7, 7, 7, 7};
+        int[] likings = {-6, -3, -3};
         for (int i = 0; i < costs.length; i++) {
             OneCode x = new OneCode();
             x.section();
             int sum = 0;
             for (int line = 0; line < 3; line++) {
                 x.line(costs[i][line]);
-                x.like(0, line, likings[i][line]);
+                x.like(0, line, likings[line]);
                 sum += costs[i][line];
             }
-            Due.be("all are hated", x.least(0), sets[i]);
+            Due.be("all are hated", x.least(0), 7);
             Due.be("their cost", x.least(1), sum);
             x.line(99);
             // With 6 for a line kept as dear as can be, either the first or both others must go.
@@ -742,6 +950,27 @@ public final class SentencesTest {
             int want = cheapest == costs[i][0] ? 1 : cheapest == costs[i][1] ? 2 : 4;
             Due.be("one alone, of the least bits", x.least(0), want);
             Due.be("the cheapest", x.least(1), cheapest);
+        }
+    }
+
+    /**
+     * Terms 5: "of the least cost; of several the fewest, then the least bits."
+     * - the last of three LINES does what the first two do; it may be dearer, as dear or cheaper.
+     */
+    static void costThenFewestThenBits() {
+        for (int dear = 0; dear <= 9; dear++) {
+            OneCode x = new OneCode();
+            x.section();
+            x.line(2);
+            x.line(3);
+            x.line(dear);
+            x.line(99);
+            x.like(0, 0, -2);
+            x.like(0, 1, -2);
+            x.like(0, 2, -4);
+            x.like(0, 3, 4);
+            Due.be("the last of cost " + dear, x.least(0), dear <= 5 ? 4 : 3);
+            Due.be("its cost", x.least(1), Math.min(dear, 5));
         }
     }
 
