@@ -159,6 +159,10 @@ public final class LongRunsTest {
         be("the last is the seventh", x.why(0, 0, 79, 79, 6), 79);
         be("as known the day ahead", x.why(0, 0, 79, 78, 6), 78);
         be("the last's number in its act", x.act(79, 2, 1), (1 + 9) * 2 - 9 ^ 1 + 79 + 9);
+        int[] bodies = {12, 20, 11, 10, 10, NONE};
+        for (int i = 0; i < bodies.length; i++) {
+            be("the trace of it", x.trace(i), bodies[i]);
+        }
         be("the last taken for one under it all", x.taken(79, 0), 1);
         be("none behind the last", x.taken(80, 0), -11);
         be("none behind the last falls", x.fall(80), NONE);

@@ -182,6 +182,22 @@ public final class PersonsEdgesTest {
         Due.be("to the first", x.goes(0, 0), 2);
     }
 
+    /** Promise 29: "A living PERSON goes to a DISTRICT: where it was." - it alone goes, and all else of it stays. */
+    static void goesAlone() {
+        OneCode x = World.rich();
+        Due.be("the child goes", x.goes(1, 2), 0);
+        int[] due = {2, 0, 50, 0, -1, 1};
+        for (int what = 0; what < due.length; what++) {
+            Due.be("personOf(1, " + what + ")", x.personOf(1, what), due[what]);
+        }
+        Due.be("not its parent", x.personOf(0, 0), 0);
+        Due.be("not its brother", x.personOf(2, 0), 0);
+        Due.be("not its child", x.personOf(4, 0), 0);
+        Due.be("still its parent's child", x.personOf(0, 5), 2);
+        Due.be("again", x.goes(1, 1), 2);
+        Due.be("it is there", x.personOf(1, 0), 1);
+    }
+
     /** Promise 30: "the ANSWER. NONE; STATE: it did" - NONE. */
     static void dieNone() {
         Still.rich("die none", x -> {
@@ -494,6 +510,25 @@ public final class PersonsEdgesTest {
         Due.be("one of two lives", x.personOf(1, 5), 1);
         OneCode y = dead("void", 0, 5);
         Due.be("all children are counted", y.personOf(1, 5), 5);
+    }
+
+    /** Promise 32: "4 its SORT as it died (-1)" - -1 of each that lives, wherever and however many there are. */
+    static void noSortOfAllThatLive() {
+        for (int where = 0; where < 8; where += 7) {
+            OneCode x = new OneCode();
+            for (int i = 0; i < 8; i++) {
+                x.district(0, 1);
+            }
+            for (int p = 0; p < 30; p++) {
+                x.person(where, p - 1, 0, 0, 0, 0);
+            }
+            x.die(0);
+            x.die(7);
+            for (int p = 0; p < 30; p++) {
+                int due = p == 0 || p == 7 ? Due.sort(2, 0, 0, 1, 0, 0) : -1;
+                Due.be("the sort of person " + p + " in district " + where, x.personOf(p, 4), due);
+            }
+        }
     }
 
     /** Promise 32: "3 0 living, 1 dead, 2 QUARRELLED" */

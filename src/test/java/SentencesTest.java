@@ -643,6 +643,8 @@ public final class SentencesTest {
         int[] second = {-1, -1, -1, -1, -1, 5, 6, 6, 6, 6};
         for (int i = 0; i < cases.length; i++) {
             x.heard(cases[i][0], cases[i][1], cases[i][2]);
+            // What was asked of the FORMS is nothing to the QUARREL.
+            x.parts(i % 2, 0);
             Due.be("first behind case " + i, x.quarrel(0, 0), first[i]);
             Due.be("second behind case " + i, x.quarrel(0, 1), second[i]);
         }
@@ -972,6 +974,67 @@ public final class SentencesTest {
             Due.be("the last of cost " + dear, x.least(0), dear <= 5 ? 4 : 3);
             Due.be("its cost", x.least(1), Math.min(dear, 5));
         }
+    }
+
+    /**
+     * Terms 5: "LEAST YIELDING: of all sets of LINES to yield with which it is carried that of the least cost; of
+     * several the fewest, then the least bits."
+     * Promise 41: "LEAST YIELDING: the set (what 0), its cost (1)." "STATE: nothing carries it"
+     * - found by going through all sets, with as many LINES and SECTIONS as can be, and few different costs.
+     */
+    static void leastOfAllSets() {
+        Dice d = new Dice(41);
+        for (int turn = 0; turn < 300; turn++) {
+            OneCode x = new OneCode();
+            int lines = d.below(8);
+            int[] costs = new int[lines];
+            for (int line = 0; line < lines; line++) {
+                costs[line] = d.below(turn % 3 == 0 ? 1 : 4);
+                x.line(costs[line]);
+            }
+            int[][] likings = new int[d.below(10)][lines];
+            for (int s = 0; s < likings.length; s++) {
+                x.section();
+                for (int line = 0; line < lines; line++) {
+                    likings[s][line] = d.from(-9, 5);
+                    x.like(s, line, likings[s][line]);
+                }
+            }
+            int best = leastOf(costs, likings);
+            Due.be("the least of turn " + turn, x.least(0), best < 0 ? STATE : best);
+            Due.be("its cost in turn " + turn, x.least(1), best < 0 ? STATE : costOf(costs, best));
+        }
+    }
+
+    private static int leastOf(int[] costs, int[][] likings) {
+        int best = -1;
+        for (int set = 0; set < 1 << costs.length; set++) {
+            int yes = 0;
+            for (int[] row : likings) {
+                int sum = 0;
+                for (int line = 0; line < row.length; line++) {
+                    sum += (set >> line & 1) == 0 ? row[line] : 0;
+                }
+                yes += sum >= 0 ? 1 : 0;
+            }
+            if (yes > likings.length - yes && (best < 0 || rankOf(costs, set) < rankOf(costs, best))) {
+                best = set;
+            }
+        }
+        return best;
+    }
+
+    /** By the cost, then by how many, then by the bits. */
+    private static int rankOf(int[] costs, int set) {
+        return (costOf(costs, set) * 8 + Integer.bitCount(set)) * 128 + set;
+    }
+
+    private static int costOf(int[] costs, int set) {
+        int sum = 0;
+        for (int line = 0; line < costs.length; line++) {
+            sum += (set >> line & 1) * costs[line];
+        }
+        return sum;
     }
 
     /**
