@@ -26,7 +26,7 @@ public final class EachCallTest {
         say owed 5 if what=2
         rule 5 5 1 0 0
         district 0 10; district 1 7; district 0 3
-        deed 0 99; deed 1 4; deed 2 1535
+        deed 0 8; deed 1 4; deed 2 1535
         days 20
         carried 1 25; carried 2 20; strike 2 30; fall 1; courts 1
         deed 0 0; deed 1 1; deed 2 1535
@@ -34,7 +34,7 @@ public final class EachCallTest {
         person 0 -1 3 1 0 350; person 0 0 1 1 0 50; person 0 0 1 0 1 101; person 1 0 0 2 1 7
         person 0 1 0 0 0 3; person 0 0 0 0 0 9; person 1 1 0 0 0 40
         die 3; die 5; die 6
-        say void if oath=1
+        say holds if oath=1
         way 0 5
         say to 1 if kids>0
         way 0 5
@@ -42,7 +42,7 @@ public final class EachCallTest {
         way 3 0
         line 5; line 3; line 2; section; section; section
         like 0 0 -5; like 0 1 3; like 1 1 -4; like 1 2 3; like 2 0 -1; like 2 2 -9
-        teach 0 0 4; teach 0 1 10; teach 1 0 2; teach 1 1 9; teach 2 2 0
+        teach 0 0 4; teach 0 1 10; teach 1 0 2; teach 1 1 9; teach 2 2 0; teach 1 2 2
         sheet 0 1 9; cell 0 0 1; cell 0 1 2; cell 0 3 3; cell 0 4 1; cell 0 5 2; cell 0 6 203
         sheet 1 1 7; cell 1 2 1
         act 7 2 4
@@ -159,7 +159,8 @@ public final class EachCallTest {
         teach 2 0 3
         teach 1 1 99
         teach 2 1 1
-        teach 1 2 2
+        teach 1 2 0
+        teach 1 2 -1
         teach 2 2 -1
         teach 0 2 2
         waits
@@ -288,6 +289,8 @@ public final class EachCallTest {
         each("left %", 0, 2);
         each("form 0 %", 0, 30);
         each("quarrel 0 %", 0, 1);
+        QUESTIONS.add("heard 0 388 1;heard 0 0 200;heard 0 606 203;quarrel 0 0;heard 0 606 1;quarrel 0 0;quarrel 0 1;heard 1 7 0;quarrel 1 1");
+        QUESTIONS.add("heard 2 1535 199;quarrel 2 0;heard 2 1535 0;quarrel 2 0;quarrel 2 1");
         QUESTIONS.add("courts 2");
         QUESTIONS.add("say =3;count 9;moves 4 0;way 2 1;count 9;keeps 0;near 0;near 1");
         QUESTIONS.add("say void;rule 0 1 9 0 0;answer 0 0 20 30;why 0 0 400 400 0;lost 0 0;lost 0 1");

@@ -7,6 +7,8 @@ public final class SentencesTest {
     private static final int CLASH = -2, GAP = -3;
     private static final String[] NAMES = {"what", "age", "house", "kids", "oath", "goods"};
     private static final int[] SIZES = {4, 4, 3, 4, 2, 4};
+    // As many as go, each with a RULE of any text, into the 512 calls of an object.
+    private static final int DEEDS = 13;
 
     public static void main(String[] args) throws Exception {
         Each.run(SentencesTest.class);
@@ -80,14 +82,14 @@ public final class SentencesTest {
      * - each SORT is fitted by the RULES of its six FIELDS alone.
      */
     static void sortsAreNumbers() {
-        for (int first = 0; first < 1536; first += 16) {
+        for (int first = 0; first < 1536; first += 12) {
             OneCode x = new OneCode();
             for (int f = 0; f < 6; f++) {
                 for (int v = 0; v < SIZES[f]; v++) {
                     Due.custom(x, 0, 0, "void if " + NAMES[f] + "=" + v);
                 }
             }
-            for (int sort = first; sort < first + 16; sort++) {
+            for (int sort = first; sort < first + 12; sort++) {
                 int rule = 0;
                 for (int f = 0; f < 6; f++) {
                     for (int v = 0; v < SIZES[f]; v++) {
@@ -227,6 +229,59 @@ public final class SentencesTest {
         Due.be("the code: no saved one counts", x.answer(5, 0, 9, 9), GAP);
         Due.be("custom 1 by its own", x.answer(1, 0, 9, 9), 0);
         Due.be("custom 1: none that fits", x.answer(1, Due.sort(0, 0, 0, 1, 0, 0), 9, 9), GAP);
+    }
+
+    /**
+     * Terms 1: "of those in force that fit it, those of the greatest RANK: their END, if all have one; else a
+     * CLASH (-2);" - any two ENDS that are not one, be they of one sort or not.
+     */
+    static void anyTwoEndsClash() {
+        String[] texts = {"void", "holds", "owed 0", "owed 1", "owed 99", "to 0", "to 1", "to 2", "to 3"};
+        int[] ends = {0, 1, 100, 101, 199, 200, 201, 202, 203};
+        for (int one = 0; one < ends.length; one++) {
+            OneCode x = new OneCode();
+            for (int other = 0; other < ends.length; other++) {
+                Due.custom(x, 3, 4, texts[one]);
+                Due.rule(x, texts[other], 3, 3, 4, 0, 0);
+                Due.rule(x, texts[one], 3, 2, 4, 0, 2);
+                int due = one == other ? ends[one] : CLASH;
+                Due.be(texts[one] + " and " + texts[other], x.answer(3, 700, 0, 0), due);
+                Due.be("clashes", x.wrong(3, 0, 0), one == other ? 0 : 1536);
+                for (int rule = 0; rule < 3; rule++) {
+                    x.strike(3 * other + rule, 0);
+                }
+            }
+        }
+    }
+
+    /**
+     * Promise 5: "A RULE is STRUCK from a DAY on: 1."
+     * Promise 7: "Of a RULE: 0 KIND, 1 BODY, 2 RANK, 3 from, 4 END, 5 how many TESTS, 6 WITNESSES that stand
+     * (0 of others), 7 from which DAY it is STRUCK (-1)."
+     * Promise 8: "Whether a RULE fits a SORT (in force or not): 1, 0."
+     * Promise 45: "An ACT of a RULE with x."
+     * Promise 47: "A RULE taken for one of KIND k (0 .. 5), or one under that (also by others between): its KIND."
+     * - also of RULES that are not in force: of a later DAY, STRUCK, or with no WITNESSES that stand.
+     */
+    static void rulesNotInForce() {
+        OneCode x = new OneCode();
+        Due.rule(x, "owed 12 if age>1", 2, 2, 6, 900, 1);
+        Due.be("the witness fell", x.fall(0), 0);
+        for (int struck = 0; struck < 2; struck++) {
+            int[] due = {2, 2, 6, 900, 112, 1, 0, struck == 0 ? -1 : 800};
+            for (int what = 0; what < due.length; what++) {
+                Due.be("ruleOf(0, " + what + ")", x.ruleOf(0, what), due[what]);
+            }
+            Due.be("fits", x.fits(0, 200), 1);
+            Due.be("fits not", x.fits(0, 100), 0);
+            Due.be("taken", x.taken(0, 2), 2);
+            Due.be("taken for a rule", x.taken(0, 0), 2);
+            Due.be("taken for a line", x.taken(0, 4), -13);
+            Due.be("holds", x.act(0, 0, 4), 30);
+            Due.be("its trace", x.trace(0), 30);
+            Due.be("struck, ahead of its day", x.strike(0, 800), struck == 0 ? 1 : STATE);
+        }
+        Due.be("still none stand", x.fall(0), STATE);
     }
 
     /** Promise 10: "The i-th RULE, by numbers, of those that give that ANSWER (of a CLASH: of the greatest RANK)." */
@@ -434,14 +489,14 @@ public final class SentencesTest {
      */
     static void lostAsTheirEndsTell() {
         Dice d = new Dice(16);
-        for (int turn = 0; turn < 60; turn++) {
+        for (int turn = 0; turn < 120; turn++) {
             OneCode x = new OneCode();
-            int[] days = new int[30];
-            int[] where = new int[30];
+            int[] days = new int[DEEDS];
+            int[] where = new int[DEEDS];
             for (int i = 0; i < 5; i++) {
                 x.district(i % 3, 1);
             }
-            for (int i = 0; i < 30; i++) {
+            for (int i = 0; i < DEEDS; i++) {
                 int body = d.chance(50) ? 5 : d.below(3);
                 Due.rule(x, d.text(), body, body == 5 ? d.from(4, 5) : d.chance(50) ? 1 : 3, d.below(3), d.below(40), 0);
                 where[i] = d.below(5);
@@ -450,7 +505,7 @@ public final class SentencesTest {
                 if (d.chance(40)) {
                     x.carried(d.below(5), days[i] + d.below(20));
                 }
-                x.strike(d.below(60), d.below(40));
+                x.strike(d.below(2 * DEEDS), d.below(40));
                 x.days(d.from(1, 2));
             }
             lostOf(x, days, where);
@@ -461,7 +516,7 @@ public final class SentencesTest {
         int now = x.count(6);
         int[] sums = new int[6];
         int[] firsts = {-1, -1, -1, -1, -1, -1};
-        for (int i = 29; i >= 0; i--) {
+        for (int i = DEEDS - 1; i >= 0; i--) {
             if (x.deedEnd(i, now, now) != x.deedEnd(i, days[i], days[i])) {
                 sums[where[i]]++;
                 sums[5]++;
